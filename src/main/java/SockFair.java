@@ -63,8 +63,8 @@ public final class SockFair {
         taped = 0;
         faultPlace = NONE;
         refused = new int[3];
-        told = new Told();
-        draft = new Told();
+        told = new Told(TAPE_MOST);
+        draft = new Told(0);
         reader = new Reader(tape, draft);
         book = new Book();
         kept = new Book();
@@ -74,8 +74,10 @@ public final class SockFair {
         course = new Course(outlook);
         trial = new Course(outlook);
         ties = new Ties(outlook);
-        ways = new Ways(ties);
-        dyes = new Dyes(trial, book);
+        // Both fill this row anew whenever they need it, and neither calls the other.
+        long[] room = new long[1 << PEOPLE_MOST];
+        ways = new Ways(ties, room);
+        dyes = new Dyes(trial, book, room);
         ages = new Ages(told);
     }
 
@@ -107,13 +109,14 @@ public final class SockFair {
             throw new IllegalArgumentException("the tape has not so many bytes");
         }
         taped = 0;
-        int code = reader.read(n);
+        // Read once to see whether there is a FAULT, with which all stays; then once more, all anew.
+        int code = reader.read(n, draft);
         faultPlace = code == 0 ? NONE : reader.place;
         if (code != 0) {
             refused[REFUSED_TEXTS]++;
             return code;
         }
-        told.copyFrom(draft);
+        reader.read(n, told);
         book.startAnew(told);
         isKept = false;
         socksChanged();
@@ -261,9 +264,8 @@ public final class SockFair {
 
     public int when(int person) throws NoSuchElementException {
         checkPerson(person);
-        Course ahead = foreseen(WALK_MOST);
         for (int fairs = 0; fairs <= WALK_MOST; fairs++) {
-            if (ahead.mateBehind(person, fairs) != NONE) {
+            if (foreseen(fairs).mateBehind(person, fairs) != NONE) {
                 return fairs;
             }
         }
@@ -677,7 +679,7 @@ public final class SockFair {
 
     /** What changes from day to day: the YEAR and, of each of PEOPLE, COLOUR, HOLES and to whom bound. */
     private static final class Socks {
-        static final int ROW = 1 + 3 * PEOPLE_MOST;
+        static final int ROW = 1 + PEOPLE_MOST;
 
         int year;
         final int[] colours;
@@ -707,18 +709,22 @@ public final class SockFair {
             System.arraycopy(from.mates, 0, mates, 0, PEOPLE_MOST);
         }
 
+        /** A row is the YEAR and one number for each of PEOPLE: what is kept of ACTS stays small. */
         void writeTo(int[] rows, int at) {
             rows[at] = year;
-            System.arraycopy(colours, 0, rows, at + 1, PEOPLE_MOST);
-            System.arraycopy(holes, 0, rows, at + 1 + PEOPLE_MOST, PEOPLE_MOST);
-            System.arraycopy(mates, 0, rows, at + 1 + 2 * PEOPLE_MOST, PEOPLE_MOST);
+            for (int one = 0; one < PEOPLE_MOST; one++) {
+                rows[at + 1 + one] = colours[one] | holes[one] << 4 | mates[one] + 1 << 8;
+            }
         }
 
         void readFrom(int[] rows, int at) {
             year = rows[at];
-            System.arraycopy(rows, at + 1, colours, 0, PEOPLE_MOST);
-            System.arraycopy(rows, at + 1 + PEOPLE_MOST, holes, 0, PEOPLE_MOST);
-            System.arraycopy(rows, at + 1 + 2 * PEOPLE_MOST, mates, 0, PEOPLE_MOST);
+            for (int one = 0; one < PEOPLE_MOST; one++) {
+                int all = rows[at + 1 + one];
+                colours[one] = all & 15;
+                holes[one] = all >> 4 & 15;
+                mates[one] = (all >> 8) - 1;
+            }
         }
 
         /** HOLES of all; places behind the last one of PEOPLE have none. */
@@ -821,30 +827,21 @@ public final class SockFair {
         final Socks start;
         final Rules rules;
 
-        Told() {
+        /** With room for so many steps of its RULES. */
+        Told(int steps) {
             people = 0;
             patterns = new int[PEOPLE_MOST + 1];
             wools = new int[PEOPLE_MOST + 1];
             sizes = new int[PEOPLE_MOST + 1];
             charms = new int[PEOPLE_MOST + 1];
             start = new Socks();
-            rules = new Rules();
+            rules = new Rules(steps);
         }
 
         void clear() {
             people = 0;
             start.clear();
             rules.clear();
-        }
-
-        void copyFrom(Told from) {
-            people = from.people;
-            System.arraycopy(from.patterns, 0, patterns, 0, PEOPLE_MOST);
-            System.arraycopy(from.wools, 0, wools, 0, PEOPLE_MOST);
-            System.arraycopy(from.sizes, 0, sizes, 0, PEOPLE_MOST);
-            System.arraycopy(from.charms, 0, charms, 0, PEOPLE_MOST);
-            start.copyFrom(from.start);
-            rules.copyFrom(from.rules);
         }
 
         /** What ALIKE gives for two with these COLOURS and HOLES. */
@@ -918,16 +915,15 @@ public final class SockFair {
     }
 
     /**
-     * ALIKE and LIKES as nodes in the order in which they are figured, the whole EXPR last. A node is its
-     * kind, the place of its left part and of its right one (10 bits each, so that every place is within
-     * the rows), or its kind and a number.
+     * ALIKE and LIKES as steps over a pile of numbers: a step is a kind and, behind it, a number or a VALUE.
+     * With room for no steps they are only counted, as a TEXT is read for its FAULT alone.
      */
     private static final class Rules {
         static final int NUMBER = 0;
         static final int VALUE = 1;
-        static final int OR = 2;
-        static final int AND = 3;
-        static final int NOT = 4;
+        static final int NOT = 2;
+        static final int OR = 3;
+        static final int AND = 4;
         static final int LESS = 5;
         static final int SAME = 6;
         static final int PLUS = 7;
@@ -935,25 +931,27 @@ public final class SockFair {
         static final int TIMES = 9;
         static final int BY = 10;
 
-        private static final int PLACES = 1024;
-        private static final int PLACE_MASK = PLACES - 1;
-        private static final int NUMBER_MASK = (1 << 20) - 1;
+        private static final int KIND_SHIFT = 20;
+        private static final int NUMBER_MASK = (1 << KIND_SHIFT) - 1;
         private static final int VALUE_MASK = 31;
+
+        // An EXPR has 5 levels at which a left part may wait, and stands within 5 others at most: 36 wait at most.
+        private static final int PILE_MASK = 63;
 
         final int[] values;
         int size;
-        private final int[] nodes;
-        private final int[] worth;
         int alikeFrom;
         int alikeTo;
         int likesFrom;
         int likesTo;
         private int alikeValues;
+        private final int[] steps;
+        private final int[] pile;
 
-        Rules() {
+        Rules(int room) {
             values = new int[VALUE_MASK + 1];
-            nodes = new int[PLACES];
-            worth = new int[PLACES];
+            steps = new int[Math.max(0, room)];
+            pile = new int[PILE_MASK + 1];
             clear();
         }
 
@@ -964,16 +962,6 @@ public final class SockFair {
             likesFrom = 0;
             likesTo = 0;
             alikeValues = 0;
-        }
-
-        void copyFrom(Rules from) {
-            size = from.size;
-            alikeFrom = from.alikeFrom;
-            alikeTo = from.alikeTo;
-            likesFrom = from.likesFrom;
-            likesTo = from.likesTo;
-            alikeValues = from.alikeValues;
-            System.arraycopy(from.nodes, 0, nodes, 0, PLACES);
         }
 
         boolean hasAlike() {
@@ -987,9 +975,9 @@ public final class SockFair {
         void endAlike(int from) {
             alikeFrom = from;
             alikeTo = size;
-            for (int at = from; at < size && at < PLACES; at++) {
-                if (nodes[at] >> 20 == VALUE) {
-                    alikeValues |= 1 << (nodes[at] & VALUE_MASK);
+            for (int at = from; at < size && at < steps.length; at++) {
+                if (steps[at] >> KIND_SHIFT == VALUE) {
+                    alikeValues |= 1 << (steps[at] & VALUE_MASK);
                 }
             }
         }
@@ -1005,44 +993,40 @@ public final class SockFair {
             return (looked & valueBits) != 0;
         }
 
-        int addLeaf(int kind, int number) {
-            return addNode(kind << 20 | number & NUMBER_MASK);
-        }
-
-        int addParts(int kind, int left, int right) {
-            return addNode(kind << 20 | (left & PLACE_MASK) << 10 | right & PLACE_MASK);
-        }
-
-        private int addNode(int node) {
-            if (size >= PLACES) {
-                return 0;
+        void addStep(int kind, int number) {
+            if (size < steps.length) {
+                steps[size] = kind << KIND_SHIFT | number & NUMBER_MASK;
             }
-            nodes[size] = node;
             size++;
-            return size - 1;
         }
 
-        /** What the EXPR of nodes from a place on, up to another one, gives for the values that are set. */
+        /** What the steps from one on, up to another one, give for the values that are set. */
         int figure(int from, int to) {
             int last = 0;
-            for (int at = from; at < to && at < PLACES; at++) {
-                int node = nodes[at];
-                int left = worth[node >> 10 & PLACE_MASK];
-                int right = worth[node & PLACE_MASK];
-                switch (node >> 20) {
-                    case NUMBER: last = node & NUMBER_MASK; break;
-                    case VALUE: last = values[node & VALUE_MASK]; break;
-                    case OR: last = left != 0 || right != 0 ? 1 : 0; break;
-                    case AND: last = left != 0 && right != 0 ? 1 : 0; break;
-                    case NOT: last = left != 0 ? 0 : 1; break;
-                    case LESS: last = left < right ? 1 : 0; break;
-                    case SAME: last = left == right ? 1 : 0; break;
-                    case PLUS: last = left + right; break;
-                    case MINUS: last = left - right; break;
-                    case TIMES: last = left * right; break;
-                    default: last = right == 0 ? 0 : left / right; break;
+            int top = 0;
+            for (int at = from; at < to && at < steps.length; at++) {
+                int kind = steps[at] >> KIND_SHIFT;
+                int number = steps[at] & NUMBER_MASK;
+                if (kind <= VALUE) {
+                    pile[top & PILE_MASK] = last;
+                    top++;
+                    last = kind == NUMBER ? number : values[number & VALUE_MASK];
+                } else if (kind == NOT) {
+                    last = last == 0 ? 1 : 0;
+                } else {
+                    top--;
+                    int left = pile[top & PILE_MASK];
+                    switch (kind) {
+                        case OR: last = left != 0 || last != 0 ? 1 : 0; break;
+                        case AND: last = left != 0 && last != 0 ? 1 : 0; break;
+                        case LESS: last = left < last ? 1 : 0; break;
+                        case SAME: last = left == last ? 1 : 0; break;
+                        case PLUS: last = left + last; break;
+                        case MINUS: last = left - last; break;
+                        case TIMES: last = left * last; break;
+                        default: last = last == 0 ? 0 : left / last; break;
+                    }
                 }
-                worth[at] = last;
             }
             return last;
         }
@@ -1105,7 +1089,7 @@ public final class SockFair {
 
         int place;
         private final byte[] text;
-        private final Told told;
+        private Told told;
         private int length;
         private int at;
         private int begin;
@@ -1121,7 +1105,8 @@ public final class SockFair {
         }
 
         /** Reads so many bytes: 0, or the FAULT, whose place is kept. */
-        int read(int many) {
+        int read(int many, Told into) {
+            told = into;
             length = Math.min(many, text.length);
             at = 0;
             code = 0;
@@ -1292,25 +1277,26 @@ public final class SockFair {
             }
         }
 
-        // ---- EXPR: each answers the place of its node; within tells how many EXPRs it stands in ----
+        // ---- EXPR: within tells in how many others it stands ----
 
         /** What is joined at a level, of parts of the next one: an EXPR at the first one. */
-        private int readLevel(int level, int within) {
+        private void readLevel(int level, int within) {
             if (level > PRODUCTS) {
-                return readPart(within);
+                readPart(within);
+                return;
             }
             int nots = level == TESTS ? readNots() : 0;
-            int left = readLevel(level + 1, within);
+            readLevel(level + 1, within);
             int most = level == TESTS ? 1 : TAPE_MOST;
             for (int turn = 0; turn < most && joinHere(level) != NONE; turn++) {
                 int join = joinHere(level);
                 step();
-                left = told.rules.addParts(join, left, readLevel(level + 1, within));
+                readLevel(level + 1, within);
+                told.rules.addStep(join, 0);
             }
             for (int i = 0; i < nots; i++) {
-                left = told.rules.addParts(Rules.NOT, left, left);
+                told.rules.addStep(Rules.NOT, 0);
             }
-            return left;
         }
 
         private int readNots() {
@@ -1324,7 +1310,7 @@ public final class SockFair {
             return nots;
         }
 
-        /** The kind of node by which the TOKEN joins parts at a level; NONE if it doesn't. */
+        /** The kind of step by which the TOKEN joins parts at a level; NONE if it doesn't. */
         private int joinHere(int level) {
             switch (kind) {
                 case OR: return level == ORS ? Rules.OR : NONE;
@@ -1339,34 +1325,32 @@ public final class SockFair {
             }
         }
 
-        private int readPart(int within) {
-            int part = 0;
+        private void readPart(int within) {
             if (kind == NUMBER && digits > DIGITS_MOST) {
                 refuse(TOO_MUCH);
             } else if (kind == NUMBER) {
-                part = told.rules.addLeaf(Rules.NUMBER, number);
+                told.rules.addStep(Rules.NUMBER, number);
                 step();
             } else if (kind == '(') {
                 step();
-                part = readWithin(within + 1);
+                readWithin(within + 1);
                 stepOver(')');
             } else if (!isAnyWord()) {
                 refuse(WRONG_TOKEN);
             } else if ((valuesHere >> kind & 1) == 0) {
                 refuse(UNKNOWN);
             } else {
-                part = told.rules.addLeaf(Rules.VALUE, kind);
+                told.rules.addStep(Rules.VALUE, kind);
                 step();
             }
-            return part;
         }
 
-        private int readWithin(int within) {
+        private void readWithin(int within) {
             if (within < WITHIN_MOST) {
-                return readLevel(ORS, within);
+                readLevel(ORS, within);
+            } else {
+                refuse(isAnyWord() || kind == NUMBER || kind == '(' ? TOO_MUCH : WRONG_TOKEN);
             }
-            refuse(isAnyWord() || kind == NUMBER || kind == '(' ? TOO_MUCH : WRONG_TOKEN);
-            return 0;
         }
     }
 
@@ -1713,20 +1697,21 @@ public final class SockFair {
         private final long[] sums;
         private final int[] wishes;
 
-        Ways(Ties ties) {
+        Ways(Ties ties, long[] room) {
             this.ties = ties;
+            sums = room;
             told = ties.told;
             row = new int[PEOPLE_MOST];
             restsKnown = false;
             rests = 0;
             firstRest = new int[PEOPLE_MOST];
             restMates = new int[PEOPLE_MOST];
-            sums = new long[1 << PEOPLE_MOST];
             wishes = new int[PEOPLE_MOST];
         }
 
         /** The most couples among each set of PEOPLE, or how much they are ALIKE together at most: of the free ones. */
         long fill(int[] given, boolean byLikeness, int free) {
+            sums[0] = 0;
             for (int last = 0; last < told.people; last++) {
                 for (int rest = 0; rest < 1 << last; rest++) {
                     long most = sums[rest];
@@ -1855,15 +1840,15 @@ public final class SockFair {
         private final int[] unlike;
         private final long[] rows;
 
-        Dyes(Course trial, Book book) {
+        Dyes(Course trial, Book book, long[] room) {
             this.trial = trial;
             this.book = book;
+            rows = room;
             outlook = trial.outlook;
             known = false;
             many = 0;
             first = NONE;
             unlike = new int[WALK_MOST + 1];
-            rows = new long[(WALK_MOST + 1) * MOST];
         }
 
         void find() {
@@ -1911,14 +1896,15 @@ public final class SockFair {
         }
 
         private void noteRow(int fairs, long row) {
-            int at = fairs * MOST;
-            for (int i = 0; i < unlike[fairs]; i++) {
-                if (rows[at + i] == row) {
+            int from = (fairs - 1) * MOST;
+            int to = from + unlike[fairs];
+            for (int at = from; at < to; at++) {
+                if (rows[at] == row) {
                     return;
                 }
             }
-            if (unlike[fairs] < MOST) {
-                rows[at + unlike[fairs]] = row;
+            if (to < rows.length) {
+                rows[to] = row;
                 unlike[fairs]++;
             }
         }
