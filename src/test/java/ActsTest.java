@@ -207,6 +207,43 @@ public final class ActsTest {
         CHECK.same("colour", x.person(0, 0), 7);
     }
 
+    private static void imagesOfManyActs() {
+        SockFair x = CHECK.of("plain 0 0 1 0 0;");
+        for (int i = 1; i <= 45; i++) {
+            x.dye(0, i % 10);
+        }
+        x.image();
+        for (int i = 0; i < 7; i++) {
+            x.dye(0, 0);
+        }
+        CHECK.same("restore", x.restore(), true);
+        for (int i = 39; i >= 0; i--) {
+            CHECK.same("undo", x.undo(), i);
+            CHECK.same("colour", x.person(0, 0), (i + 5) % 10);
+        }
+    }
+
+    private static void imagesOfSights() {
+        SockFair x = CHECK.of(Check.FIVE);
+        x.see(0, 1, 1);
+        x.see(2, 7, -1);
+        x.image();
+        CHECK.same("so", x.dyed(2), 1);
+        x.forget();
+        x.see(3, 9, 4);
+        x.see(1, 2, 3);
+        x.dye(0, 9);
+        CHECK.same("not so", x.dyed(2), 0);
+        CHECK.same("1 gets 2 (7), 0 nobody", x.then(0, 1), -1);
+        CHECK.same("restore", x.restore(), true);
+        CHECK.same("so again", x.dyed(2), 1);
+        CHECK.same("so many", x.dyed(0), 39);
+        CHECK.same("bound behind a fair", x.then(0, 1), 1);
+        CHECK.same("alike", x.closest(), 1);
+        x.see(2, 8, 0);
+        CHECK.same("not so", x.dyed(2), 0);
+    }
+
     private static void images() {
         SockFair x = CHECK.of(Check.FIVE);
         CHECK.same("no image", x.restore(), false);
@@ -236,6 +273,7 @@ public final class ActsTest {
         CHECK.same("all is so", x.dyed(2), 1);
         CHECK.same("undo what was kept", x.undo(), 1);
         CHECK.same("year", x.count(1), 0);
+        CHECK.same("colour", x.person(0, 0), 4);
         CHECK.same("undo what was kept", x.undo(), 0);
         CHECK.same("colour", x.person(0, 0), 1);
         CHECK.same("restore again", x.restore(), true);
@@ -249,6 +287,8 @@ public final class ActsTest {
         CHECK.same("the tape is none of it", x.feed(0, 0, 0, 0, 0), 20);
         x.restore();
         CHECK.same("bytes", x.count(7), 20);
+        imagesOfManyActs();
+        imagesOfSights();
         SockFair y = new SockFair();
         y.image();
         CHECK.same("an image of nobody", y.restore(), true);

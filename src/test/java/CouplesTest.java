@@ -121,6 +121,7 @@ public final class CouplesTest {
     }
 
     private static void rests() {
+        CHECK.same("mates, asked first", CHECK.of(Check.FIVE).mates(0), 2);
         SockFair x = CHECK.of(Check.FIVE);
         CHECK.same("rests", x.rests(-1), 1);
         int[] due = {1, 0, -1, -1, -1};

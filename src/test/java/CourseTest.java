@@ -5,6 +5,7 @@ public final class CourseTest {
     public static void main(String[] args) {
         five();
         later();
+        last();
         edges();
         CHECK.end("CourseTest");
     }
@@ -70,6 +71,18 @@ public final class CourseTest {
         CHECK.same("lasts of who is worn through", y.lasts(0), 1);
         CHECK.same("then", y.then(0, 1), -1);
         CHECK.same("lasts by the other one", y.lasts(1), 1);
+    }
+
+    /** Alike when both have 7 holes, at the 8th fair: the last one behind which any whole sock is bound. */
+    private static void last() {
+        SockFair x = CHECK.of("plain 0 0 1 0 0;plain 0 0 1 0 0;alike worn-13;");
+        CHECK.same("when", x.when(0), 8);
+        CHECK.same("couples behind 7", x.couples(7), 0);
+        CHECK.same("couples behind 8", x.couples(8), 1);
+        CHECK.same("couples behind 9", x.couples(9), 0);
+        CHECK.same("hold", x.hold(8), 8);
+        CHECK.same("bound", x.count(2), 3);
+        CHECK.same("lasts", x.lasts(0), 1);
     }
 
     private static void edges() {

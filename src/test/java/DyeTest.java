@@ -28,7 +28,6 @@ public final class DyeTest {
         way(x, 2, 0, -1, -1);
         way(x, 3, 0, -1, -1);
         way(x, 0, 0, -1, -1);
-        // 2 dyed 0 or 1 or 2 lets 0 and 1 be: 2 must be nearer to 1 than 0 is.
         x.bind(0, 3);
         way(x, 0, 1, -1, -1);
         way(x, 1, 0, -1, -1);
@@ -44,6 +43,7 @@ public final class DyeTest {
         way(CHECK.of("plain 9 0 1 5 0;plain 9 0 1 0 0;alike 3-worn*(colours<5);"), 0, 1, 3, 0);
         // Both: another colour, and all holes.
         way(CHECK.of("plain 9 0 1 9 0;plain 0 0 1 0 0;alike 1-worn-colours;"), 0, 1, 12, 9);
+        way(CHECK.of(FAR + "alike colours=10;"), 1, 0, -1, -1);
         // Ahead of the new holes: bound, though unbound behind the same fair.
         way(CHECK.of("plain 2 0 1 8 0;plain 2 0 1 8 0;"), 0, 1, 0, 20);
         for (int what : new int[] {-1, 2, Integer.MAX_VALUE}) {
@@ -61,6 +61,11 @@ public final class DyeTest {
         SockFair x = CHECK.of(Check.FIVE);
         x.couples(30);
         x.way(4, 0, 0);
+        CHECK.same("closest", x.closest(), 1);
+        CHECK.same("couples that may", x.count(4), 5);
+        x.bind(2, 3);
+        CHECK.same("then", x.then(0, 1), 1);
+        x.undo();
         x.knit(3);
         x.dyed(0);
         x.next(0);
@@ -166,6 +171,7 @@ public final class DyeTest {
         found(x, 0, -1, 0);
         telling(x, -1, 0);
         x.forget();
+        found(x, 18, 1, 1);
         x.see(0, 1, -1);
         found(x, 12, 1, 1);
         telling(x, 1, 1);
@@ -214,6 +220,15 @@ public final class DyeTest {
         SockFair y = CHECK.of("plain 0 0 1 0 0;plain 4 0 1 0 0;plain 9 0 1 0 0;alike 3-colours;");
         // 0 dyed near 1 (2 to 6) or 2 (7 to 9); 1 near 0 (0 to 2) or 2 (7 to 9); 2 near 0 or 1: 01, 02, 12, none.
         telling(y, 1, 4);
+        // At the 8th fair only.
+        telling(CHECK.of(FAR + "alike (colours<3)*(worn-13);"), 8, 2);
+        // Ten of all colours: whoever is dyed is bound to whose colour it is, in 45 couples.
+        StringBuilder ten = new StringBuilder("alike not colours;");
+        for (int i = 0; i < 10; i++) {
+            ten.append("plain ").append(i).append(" 0 1 0 0;");
+        }
+        telling(CHECK.of(ten.toString()), 1, 45);
+        found(CHECK.of(ten.toString()), 90, 1, 1);
         for (int what : new int[] {-1, 2}) {
             CHECK.none("next", () -> x.next(what));
         }

@@ -40,6 +40,7 @@ public final class GameTest {
         game(x, 0, 3, 1, 0);
         // One hole: 15 - 1 hidden, 14 shown; both rest.
         game(CHECK.of("plain 0 0 1 1 0;plain 0 0 1 0 0;"), 0, 1, 2, 0);
+        game(CHECK.of("plain 0 0 1 1 0;plain 0 0 1 0 0;"), 1, 0, 2, 0);
         // As many holes: both show, or both hide.
         game(CHECK.of("plain 0 0 1 4 0;plain 0 0 1 4 0;"), 0, 1, 2, 0);
         // Both must hide: alike by whole socks alone.
@@ -88,6 +89,7 @@ public final class GameTest {
         SockFair river = CHECK.of("plain 0 0 1 0 0;plain 0 0 1 0 0;bound 0 1;alike 0;");
         ages(river, 0, 1, 2, 0, 5);
         ages(river, 0, 2, 0, 0, 7);
+        ages(river, 5, 1, 0, 0, 2); // 18655, 8457: a river for 1, who is bound to 0
         SockFair dog = CHECK.of("plain 0 0 1 8 0;plain 0 0 1 0 0;bound 0 1;alike 0;");
         ages(dog, 0, 1, 0, 1, 10); // 9 at most
         CHECK.same("nothing has happened", dog.count(2), 3);

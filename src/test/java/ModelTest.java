@@ -53,8 +53,8 @@ public final class ModelTest {
         for (String name : FACE.keySet()) {
             WEIGHTS.put(name, 3);
         }
-        for (String name : new String[] {"hold", "dye", "bind", "see"}) {
-            WEIGHTS.put(name, 6);
+        for (String name : new String[] {"dye", "darn", "see", "way", "rests", "then"}) {
+            WEIGHTS.put(name, 5);
         }
         WEIGHTS.put("feed", 1);
         WEIGHTS.put("fair", 1);
@@ -135,12 +135,12 @@ public final class ModelTest {
     private int[] argumentsOf(String name) {
         switch (name) {
             case "feed": return new int[] {chance.nextInt(), 0x20202020, chance.nextInt(), 0x31323334, 0x3b3b3b3b};
-            case "fair": return new int[] {chance.nextInt(3) == 0 ? chance.nextInt(60) - 5 : 0};
+            case "fair": return new int[] {chance.nextBoolean() ? -1 - chance.nextInt(3) : model.count(7) + 1};
             case "count": return new int[] {within(0, 10)};
             case "person": return new int[] {somebody(), within(0, 8)};
-            case "hold": return new int[] {chance.nextInt(3) == 0 ? within(1, 20) : within(1, 3)};
+            case "hold": return new int[] {within(1, chance.nextInt(6) == 0 ? 20 : 2)};
             case "dye": return new int[] {somebody(), within(0, 9)};
-            case "darn": return new int[] {somebody(), within(1, 9)};
+            case "darn": return new int[] {somebody(), within(chance.nextBoolean() ? 5 : 1, 9)};
             case "then": return new int[] {somebody(), within(0, chance.nextBoolean() ? 30 : 8)};
             case "couples":
             case "single": return new int[] {within(0, chance.nextBoolean() ? 30 : 8)};

@@ -14,6 +14,8 @@ public final class TextTest {
         faultsOfExprs();
         depth();
         blanks();
+        bytesThatAreNone();
+        cutTexts();
         meaning();
         CHECK.end("TextTest");
     }
@@ -113,6 +115,8 @@ public final class TextTest {
 
     private static void allAnew() {
         SockFair x = worked();
+        CHECK.same("closest", x.closest(), 1);
+        CHECK.same("rests", x.rests(-1) + x.dyed(0) + x.couples(3) != 0, true);
         CHECK.same("anew", x.fair(Check.tape(x, P + P + "bound 1 0;")), 0);
         CHECK.same("people", x.count(0), 2);
         CHECK.same("year 0", x.count(1), 0);
@@ -126,6 +130,10 @@ public final class TextTest {
         CHECK.same("status 2 stays", x.count(10), 1);
         CHECK.same("the rule is gone", x.alike(0, 1), 15);
         CHECK.same("likes too", x.liking(0, 1), 15);
+        CHECK.same("closest", x.fair(Check.tape(x, P + "heeled 9 0 1 0 0;" + "heeled 9 0 1 0 0;")), 0);
+        CHECK.same("closest", x.closest(), 12);
+        CHECK.same("may", x.person(0, 7), 6);
+        CHECK.same("couples", x.couples(1), 1);
     }
 
     private static void faultsOfLines() {
@@ -258,6 +266,34 @@ public final class TextTest {
         CHECK.fault("plain 0 0 1 0 0;alike\n1+1 ;", 0, -1);
         CHECK.fault("alike 1 2;", 1, 8);
         CHECK.fault("alike col ours;", 3, 6);
+    }
+
+    /** Bytes that no token has, also those that would be small numbers. */
+    private static void bytesThatAreNone() {
+        String taken = "abcdefghijklmnopqrstuvwxyz0123456789;()+-*/<= \n";
+        for (char b = 0; b < 256; b++) {
+            if (taken.indexOf(b) < 0) {
+                CHECK.fault(b + P, 1, 0);
+                CHECK.fault("alike 1" + b + "1;", 1, 7);
+                CHECK.fault("alike 1+" + b + ";", 1, 8);
+            }
+        }
+    }
+
+    /** What stands on the tape behind the first bytes is none of the text. */
+    private static void cutTexts() {
+        SockFair x = new SockFair();
+        Check.tape(x, "plainx 0 0 1 0 0;");
+        CHECK.same("cut in a word", x.fair(5), 1);
+        CHECK.same("its end", x.fault(), 5);
+        Check.tape(x, "alike 123;");
+        CHECK.same("cut in a number", x.fair(7), 1);
+        CHECK.same("its end", x.fault(), 7);
+        Check.tape(x, "alike 1;likes zzz");
+        CHECK.same("cut behind a line", x.fair(8), 0);
+        Check.tape(x, "alike 1   ;");
+        CHECK.same("cut in blanks", x.fair(9), 1);
+        CHECK.same("its end", x.fault(), 9);
     }
 
     private static int value(String text) {
