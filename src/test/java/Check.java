@@ -1,5 +1,9 @@
+import java.io.IOException;
 import java.nio.charset.StandardCharsets;
+import java.nio.file.Files;
+import java.nio.file.Path;
 import java.util.Arrays;
+import java.util.TreeSet;
 
 /** What the tests share: texts onto tapes, and answers against what is due. */
 final class Check {
@@ -7,18 +11,70 @@ final class Check {
     static final String FIVE =
         "plain 1 0 10 0 5;plain 2 0 11 1 9;striped 1 1 10 0 3;argyle 9 2 30 0 0;plain 1 0 12 8 7;";
 
+    /** One of PEOPLE, in 16 bytes; two such are ALIKE by 15. */
+    static final String P = "plain 0 0 1 0 0;";
+
+    private static final Path DOCUMENT = Path.of("../shared/DOC.md");
+
     interface Call {
         long answer();
     }
 
     private int wrong;
     private int asked;
+    private int sentences;
+    private String sentence = "";
+    private final TreeSet<Integer> promises = new TreeSet<>();
+
+    /** What is asked from here on is what a promise says in these words, which must stand there. */
+    void promise(int number, String words) {
+        promises.add(number);
+        sentenceOf("## Promise " + number + ":", words);
+    }
+
+    /** What is asked from here on is what 'Terms' says in these words, which must stand there. */
+    void terms(String words) {
+        sentenceOf("## Terms", words);
+    }
+
+    private void sentenceOf(String heading, String words) {
+        sentences++;
+        sentence = "";
+        String part = partOf(document(), heading);
+        same("'" + words + "' stands behind " + heading, part.contains(words), true);
+        sentence = heading.substring(3) + " '" + words + "' ";
+    }
+
+    private static String document() {
+        try {
+            return Files.readString(DOCUMENT, StandardCharsets.UTF_8);
+        } catch (IOException e) {
+            throw new IllegalStateException("the document isn't there", e);
+        }
+    }
+
+    private static String partOf(String document, String heading) {
+        int from = document.indexOf("\n" + heading);
+        if (from < 0) {
+            return "";
+        }
+        int to = document.indexOf("\n## ", from + 1);
+        return document.substring(from, to < 0 ? document.length() : to);
+    }
+
+    /** Every promise from one on, up to another one, was named. */
+    void namesPromises(int from, int to) {
+        sentence = "";
+        for (int number = from; number <= to; number++) {
+            same("promise " + number + " is named", promises.contains(number), true);
+        }
+    }
 
     void same(String call, long got, long due) {
         asked++;
         if (got != due) {
             wrong++;
-            System.out.println(call + " answered " + got + ", due is " + due);
+            System.out.println(sentence + call + " answered " + got + ", due is " + due);
         }
     }
 
@@ -39,7 +95,7 @@ final class Check {
             got = "threw " + e.getClass().getSimpleName();
         }
         wrong++;
-        System.out.println(call + " " + got + ", due is " + due.getSimpleName());
+        System.out.println(sentence + call + " " + got + ", due is " + due.getSimpleName());
     }
 
     void none(String call, Call what) {
@@ -51,7 +107,8 @@ final class Check {
     }
 
     void end(String name) {
-        System.out.println(name + ": " + asked + " answers, " + wrong + " wrong");
+        System.out.println(name + ": " + asked + " answers, " + wrong + " wrong"
+            + (sentences > 0 ? ", of " + sentences + " sentences" : ""));
         if (wrong != 0 || asked == 0) {
             System.exit(1);
         }
@@ -84,5 +141,9 @@ final class Check {
         SockFair x = new SockFair();
         same("fair of " + text, x.fair(tape(x, text)), code);
         same("fault of " + text, x.fault(), place);
+    }
+
+    void good(String text) {
+        fault(text, 0, -1);
     }
 }
