@@ -21,7 +21,8 @@ public final class EdgesOfActsTest {
         images();
         imageInPlace();
         imageOfAll();
-        CHECK.promise(42, "are kept as an image");
+        imageOfSights();
+        asked();
         CHECK.namesPromises(9, 14);
         CHECK.namesPromises(42, 43);
         CHECK.end("EdgesOfActsTest");
@@ -109,6 +110,10 @@ public final class EdgesOfActsTest {
         SockFair y = CHECK.of("plain 0 0 5 0 0;plain 0 0 9 0 0;plain 0 0 8 0 0;plain 0 0 4 0 0;alike sizes=1;");
         y.hold(1);
         mates(y, "both", 3, 2, 1, 0);
+        CHECK.terms("and so on, until there are none");
+        SockFair odd = CHECK.of(P.repeat(9) + "alike 1;");
+        odd.hold(1);
+        mates(odd, "all but one", 1, 0, 3, 2, 5, 4, 7, 6, -1);
         CHECK.terms("those who are most ALIKE are bound");
         // 12 is 3, 01 and 23 are 2: the middle ones first, then nobody is left for 0 and 3 but each other (1).
         SockFair z = CHECK.of("plain 0 0 1 0 0;plain 2 0 1 0 0;plain 3 0 1 0 0;plain 5 0 1 0 0;alike 4-colours;");
@@ -141,6 +146,8 @@ public final class EdgesOfActsTest {
         CHECK.same("HOLES of all", x.count(3), 36);
         CHECK.terms("YEAR 0 is the first");
         CHECK.same("the YEAR", CHECK.of(P).count(1), 0);
+        CHECK.terms("The YEAR is one more then.");
+        CHECK.same("the YEAR", CHECK.of(P).hold(1), 1);
         // Alike by what is there ahead of the new HOLES: at the second FAIR both have 1.
         SockFair y = CHECK.of(P + P + "alike worn=2;");
         y.hold(1);
@@ -191,6 +198,7 @@ public final class EdgesOfActsTest {
             CHECK.same("acts", x.count(5), i + 1);
             was = colours[i];
         }
+        CHECK.terms("a SOCK is DYED (another COLOUR)");
         CHECK.same("the other one's stays", x.person(1, 0), 9);
         CHECK.same("dye the last one", x.dye(1, 0), 9);
         CHECK.same("not refused", x.count(9), 0);
@@ -415,6 +423,63 @@ public final class EdgesOfActsTest {
         CHECK.same("undo", x.undo(), 0);
         CHECK.same("COLOUR", x.person(0, 0), 0);
         CHECK.same("COLOUR", x.person(1, 0), 0);
+    }
+
+    private static void imageOfSights() {
+        CHECK.promise(42, "what is SEEN are kept as an image");
+        SockFair x = CHECK.of(P + P + P);
+        x.see(0, 1, 1);
+        x.see(2, 8, -1);
+        x.image();
+        CHECK.same("so", x.dyed(2), 1);
+        x.forget();
+        x.see(2, 3, 1);
+        x.see(0, 4, -1);
+        CHECK.same("not so", x.dyed(2), 0);
+        CHECK.same("restore", x.restore(), true);
+        CHECK.same("so again", x.dyed(2), 1);
+        x.see(1, 9, -1);
+        CHECK.same("three", x.count(6), 3);
+        CHECK.same("and so still", x.dyed(2), 1);
+    }
+
+    /** Each answer is of what stands when it is asked, whatever was asked ahead. */
+    private static void asked() {
+        CHECK.promise(9, "FAIRS are held");
+        Twins.forgetsAnswers(CHECK, "hold(1)", x -> x.hold(1));
+        Twins.forgetsAnswers(CHECK, "hold(20)", x -> x.hold(20));
+        CHECK.promise(10, "DYED");
+        Twins.forgetsAnswers(CHECK, "dye(1, 9)", x -> x.dye(1, 9));
+        Twins.forgetsAnswers(CHECK, "dye(0, 2)", x -> x.dye(0, 2));
+        CHECK.promise(11, "DARNED");
+        Twins.forgetsAnswers(CHECK, "darn(1, 9)", x -> x.darn(1, 9));
+        CHECK.promise(12, "UNRAVELLED");
+        Twins.forgetsAnswers(CHECK, "unravel(0)", x -> x.unravel(0));
+        CHECK.promise(13, "BOUND by hand");
+        Twins.forgetsAnswers(CHECK, "bind(1, 3)", x -> x.bind(1, 3));
+        CHECK.promise(14, "The last ACT is UNDONE");
+        for (int many = 1; many <= 5; many++) {
+            int undone = many;
+            Twins.forgetsAnswers(CHECK, many + " times undo()", x -> {
+                for (int i = 0; i < undone; i++) {
+                    x.undo();
+                }
+            });
+        }
+        CHECK.promise(43, "They are as the image again");
+        Twins.forgetsAnswers(CHECK, "restore()", x -> x.restore());
+        CHECK.promise(3, "all anew");
+        Twins.forgetsAnswers(CHECK, "fair(17)", x -> x.fair(17));
+        Twins.forgetsAnswers(CHECK, "fair(0)", x -> x.fair(0));
+        Twins.forgetsAnswers(CHECK, "another text", x -> {
+            x.fair(0);
+            x.fair(Check.tape(x, Check.FIVE));
+        });
+        CHECK.promise(29, "SEEN");
+        Twins.forgetsAnswers(CHECK, "see(0, 1, -1)", x -> x.see(0, 1, -1));
+        Twins.forgetsAnswers(CHECK, "see(0, 2, 2)", x -> x.see(0, 2, 2));
+        CHECK.promise(30, "forgotten");
+        Twins.forgetsAnswers(CHECK, "forget()", SockFair::forget);
     }
 
     private static void imageOfAll() {

@@ -88,6 +88,9 @@ public final class EdgesOfCouplesTest {
         CHECK.same("more", CHECK.of(three + "6;bound 0 1;likes charm;").faithful(), 0);
         CHECK.same("as much", CHECK.of(three + "5;bound 0 1;likes charm*(own=0);").faithful(), 1);
         CHECK.same("less", CHECK.of(three + "4;bound 0 1;likes charm*(own=0);").faithful(), 1);
+        // Who tempts is the first one, or the last one, of all.
+        CHECK.same("by 0", CHECK.of("plain 0 0 1 0 9;plain 0 0 1 0 5;plain 0 0 1 0 5;bound 1 2;likes charm;").faithful(), 0);
+        CHECK.same("by 9", CHECK.of("plain 0 0 1 0 5;".repeat(9) + "plain 0 0 1 0 9;bound 0 1;likes charm;").faithful(), 0);
         // The other one of both is tempted: charms 0 and 5, 1 likes 2 more than 0.
         CHECK.same("the second one", CHECK.of(three + "4;bound 0 1;likes charm*(own=5);").faithful(), 0);
         // 0 and 1 would rather have 2, who likes 3 as much as 1, or less.
@@ -222,6 +225,11 @@ public final class EdgesOfCouplesTest {
         CHECK.same("both like more", both.rests(-1), 1);
         CHECK.same("2 with 3", both.rests(2), 3);
         CHECK.same("0 with 1", both.rests(0), 1);
+        CHECK.terms("so that no two of them who MAY be, and aren't bound to each other in this");
+        // 0 and 1 like each other most by far, but MAY not: with nobody both are at rest.
+        SockFair not = CHECK.of(P + P + "alike 0;likes 99;");
+        CHECK.same("one way", not.rests(-1), 1);
+        CHECK.same("nobody", not.rests(0), -1);
         CHECK.terms("ways in which some of those who aren't bound, and MAY be, are bound");
         // 3 is bound by hand to 2: what 0 and 1 would rather have is none of it.
         SockFair taken = CHECK.of(P + P + "plain 0 0 1 0 9;plain 0 0 1 0 9;bound 2 3;");
@@ -283,6 +291,13 @@ public final class EdgesOfCouplesTest {
         SockFair x = CHECK.of(P + P + "bound 0 1;");
         x.unravel(0);
         CHECK.same("free again", x.ring(), 2);
+        CHECK.terms("A RING: the fewest PEOPLE of whom each would RATHER have the next one, the last one the first one");
+        // Two rings apart: three by charms 1, 2, 3, whose mates are 9; two by charms 11, 12, whose mates are 19.
+        String[] apart = {"plain 0 0 1 0 1;plain 0 0 1 0 2;plain 0 0 1 0 3;", "plain 0 0 1 0 11;plain 0 0 1 0 12;"};
+        String others = "plain 0 0 1 0 20;".repeat(5) + "bound 0 5;bound 1 6;bound 2 7;bound 3 8;bound 4 9;"
+            + "likes charm-own=1 or own=3 and charm=1 or own=12 and charm=11;";
+        CHECK.same("three, then two", CHECK.of(apart[0] + apart[1] + others).ring(), 2);
+        CHECK.same("two, then three", CHECK.of(apart[1] + apart[0] + others).ring(), 2);
     }
 
     private static void far() {
@@ -333,6 +348,9 @@ public final class EdgesOfCouplesTest {
         CHECK.same("of those who aren't bound", bound.colour(1), 0);
         SockFair one = CHECK.of(P);
         CHECK.same("of one", one.colour(1), 0);
+        SockFair two = CHECK.of(P + "plain 9 0 1 0 0;");
+        CHECK.same("one couple, however alike", two.colour(1), 1);
+        CHECK.same("the COLOURS stay", two.person(1, 0), 9);
         CHECK.same("of nobody", new SockFair().colour(1), 0);
         CHECK.same("of nobody", new SockFair().colour(0), 0);
         CHECK.promise(40, "NoSuchElementException: another what");

@@ -58,6 +58,7 @@ public final class EdgesOfDyesTest {
         way("a HOLE", CHECK.of("plain 9 0 1 9 0;" + P + "alike worn<9;"), 0, 1, 1, 91);
         way("all HOLES", CHECK.of("plain 9 0 1 9 0;" + P + "alike worn=0;"), 0, 1, 9, 99);
         way("a COLOUR and all HOLES", CHECK.of("plain 9 0 1 9 0;" + P + "alike worn=0 and colours=0;"), 0, 1, 12, 9);
+        CHECK.terms("a COLOUR, and so many HOLES darned (0 to as many as there are)");
         way("not more HOLES than there are", CHECK.of("plain 9 0 1 9 0;plain 0 0 1 1 0;alike worn=0;"), 0, 1, -1, -1);
         way("one has none", CHECK.of(P + "plain 0 0 1 9 0;alike worn<9;"), 0, 1, -1, -1);
         way("one has one", CHECK.of("plain 0 0 1 1 0;" + P + "alike worn=0;"), 0, 1, 1, 1);
@@ -125,6 +126,7 @@ public final class EdgesOfDyesTest {
         CHECK.same("no COLOUR 10", CHECK.of(P + "alike colours=10;").knit(0), -1);
         CHECK.same("the WOOL 3", CHECK.of("plain 0 3 1 0 0;alike wool;").knit(0), 10003);
         CHECK.same("the PATTERN 3", CHECK.of("heeled 0 0 1 0 0;alike pattern;").knit(0), 10030);
+        CHECK.same("by plain alone", CHECK.of(P + "alike plain=1;").knit(0), 10010);
         CHECK.same("the least SIZE, not the nearest", CHECK.of("plain 0 0 9 0 0;alike 3-sizes;").knit(0), 70000);
         CHECK.same("the SIZE ahead of the COLOUR", CHECK.of(P + "alike sizes=1 and not colours or not sizes and colours=9;").knit(0), 10900);
         CHECK.same("the COLOUR ahead of the PATTERN", CHECK.of(P + "alike colours=1 and pattern or not colours and not pattern;").knit(0), 10010);
@@ -252,8 +254,12 @@ public final class EdgesOfDyesTest {
             x.see(0, i, -1);
         }
         CHECK.same("not so", x.dyed(2), 0);
+        CHECK.same("by none", x.dyed(0), 0);
+        CHECK.same("no fair tells", x.next(0), -1);
         x.forget();
         CHECK.same("of eight", x.count(6), 0);
+        CHECK.same("by all", x.dyed(0), 18);
+        CHECK.same("a fair tells", x.next(0), 1);
         CHECK.same("so without any", x.dyed(2), 1);
         CHECK.same("eight again", x.see(0, 1, 1), 1);
         CHECK.same("so", x.dyed(2), 1);
@@ -381,6 +387,22 @@ public final class EdgesOfDyesTest {
             SockFair x = CHECK.of(P + P + "alike (worn=" + 2 * (fair - 1) + ")*(5-colours);");
             telling("at fair " + fair, x, fair <= 8 ? fair : 1, fair <= 8 ? 2 : 1);
         }
+        // Ten of all COLOURS: whoever is dyed is bound to whose COLOUR that is, in 45 couples.
+        StringBuilder ten = new StringBuilder("alike not colours;");
+        for (int i = 0; i < 10; i++) {
+            ten.append("plain ").append(i).append(" 0 1 0 0;");
+        }
+        telling("45 couples", CHECK.of(ten.toString()), 1, 45);
+        // Nine: each may also get the COLOUR that nobody has, and then nobody is bound, whoever it is.
+        StringBuilder nine = new StringBuilder("alike not colours;");
+        for (int i = 0; i < 9; i++) {
+            nine.append("plain ").append(i).append(" 0 1 0 0;");
+        }
+        telling("36 couples and none", CHECK.of(nine.toString()), 1, 37);
+        // At the first FAIR 01 alone MAY be, at the second one any of three.
+        SockFair later = CHECK.of("plain 0 0 1 0 0;plain 1 0 2 0 0;plain 2 0 9 0 0;alike not colours and (sizes=1 or worn=2);");
+        telling("01 and none, then all three and none", later, 2, 4);
+        CHECK.same("of its own room", later.best() * 100 + later.most(-1) * 10 + later.colour(1), 1);
         // Without dyeing it would be another one: that doesn't count.
         SockFair y = CHECK.of(P + P + "alike not colours;");
         y.see(0, 20, -1);
@@ -418,6 +440,13 @@ public final class EdgesOfDyesTest {
             CHECK.same("1 has " + holes, CHECK.of(P + "plain 0 0 1 " + holes + " 0;alike 1;").darner(), holes >= 4 ? 1 : -1);
             CHECK.same("both have " + holes, CHECK.of(("plain 0 0 1 " + holes + " 0;").repeat(2) + "alike 1;").darner(), -1);
         }
+        // All its HOLES: alike by none at all, at the first FAIR.
+        for (int holes = 1; holes <= 9; holes++) {
+            CHECK.same("all " + holes, CHECK.of("plain 0 0 1 " + holes + " 0;" + P + "alike not worn;").darner(), 0);
+        }
+        // Behind 5 FAIRS, not 4 or 6: alike at the fifth one alone, if 0 has none.
+        CHECK.same("at the fifth", CHECK.of("plain 0 0 1 1 0;" + P + "alike worn=8;").darner(), 0);
+        CHECK.same("at the sixth", CHECK.of("plain 0 0 1 1 0;" + P + "alike worn=10;").darner(), -1);
         CHECK.same("either of two", CHECK.of("plain 0 0 1 9 0;plain 0 0 1 9 0;" + P).darner(), 0);
         CHECK.same("the last of ten", CHECK.of(P.repeat(9) + "plain 0 0 1 9 0;alike 1;").darner(), 9);
         CHECK.same("as many as without", CHECK.of(P + P + "plain 0 0 1 9 0;alike 1;").darner(), -1);

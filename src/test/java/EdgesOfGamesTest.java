@@ -36,6 +36,11 @@ public final class EdgesOfGamesTest {
                 CHECK.same("basket(" + socks + ", " + what + ")", x.basket(socks, what), due[what]);
             }
         }
+        CHECK.terms("takes the next one that is better than all of these (the last one, if there is none)");
+        // Of one, that one is the last one, too; of two it can't be lost by what was seen.
+        CHECK.same("basket(1, 1)", x.basket(1, 1), 1);
+        CHECK.same("basket(2, 1)", x.basket(2, 1), 1);
+        CHECK.same("basket(2, 2)", x.basket(2, 2), 2);
         CHECK.terms("how many it lets go by (of like ones the fewest)");
         // Of two, the first or the last one is the best as likely.
         CHECK.same("basket(2, 0)", x.basket(2, 0), 0);
@@ -162,6 +167,9 @@ public final class EdgesOfGamesTest {
     }
 
     private static void hiding() {
+        CHECK.terms("each shows his SOCK as it is, or as if it had none (0, 1)");
+        game("as it is: 18 together", two(9, 9, "alike 9*(worn=18);"), 1, 0);
+        game("as if 0 had none: 9 together", two(9, 0, "alike 9*(worn=0);"), 1, 10);
         CHECK.terms("each gains ALIKE of both (as they are shown), if that is more than 0");
         // By hiding ALIKE goes from -3 to 0, 1, 2: only 2 less 1 is more than 0.
         game("to 0", two(3, 0, "alike 0-worn;"), 1, 0);
@@ -214,6 +222,9 @@ public final class EdgesOfGamesTest {
         for (int seed : new int[] {0, 1, -1, Integer.MIN_VALUE, Integer.MAX_VALUE}) {
             ages("none are held", x, seed, 0, 2, 0, 7);
         }
+        CHECK.terms("how many are bound at the end");
+        SockFair ten = CHECK.of(P.repeat(10) + "bound 0 9;bound 1 8;bound 2 7;bound 3 6;bound 4 5;");
+        ages("all ten", ten, 1, 0, 10, 0, 0);
         // Nobody MAY, and a new SOCK is the only way to fewer HOLES.
         SockFair one = CHECK.of("plain 0 0 1 9 0;");
         int[] chance = {12345};

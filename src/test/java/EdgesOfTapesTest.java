@@ -201,6 +201,18 @@ public final class EdgesOfTapesTest {
         Check.tape(x, text + "sock");
         CHECK.same("fair(33)", x.fair(33), 1);
         CHECK.same("fault()", x.fault(), 32);
+        // Cut within a NUMBER: what is left of it stands, and the text ends there.
+        for (int n : new int[] {11, 12, 16, 17}) {
+            SockFair y = new SockFair();
+            Check.tape(y, "plain 9 3 30 9 20;");
+            CHECK.same("fair(" + n + ")", y.fair(n), 1);
+            CHECK.same("fault() of " + n, y.fault(), n);
+        }
+        // Cut within a word of a rule: what is left of it is another word.
+        SockFair z = new SockFair();
+        Check.tape(z, "alike worn;");
+        CHECK.same("alike wor", z.fair(9), 3);
+        CHECK.same("fault()", z.fault(), 6);
     }
 
     private static void emptyThen() {

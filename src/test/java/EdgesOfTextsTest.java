@@ -22,6 +22,7 @@ public final class EdgesOfTextsTest {
         longestText();
         words();
         numbers();
+        signs();
         blanks();
         lines();
         tokensInLines();
@@ -169,6 +170,26 @@ public final class EdgesOfTextsTest {
         // Beside 0 and 9 stand / and :.
         CHECK.same("/ is a sign", alike("8/2"), 4);
         CHECK.fault("alike 8:2;", 1, 7);
+    }
+
+    private static void signs() {
+        CHECK.terms("signs ; ( ) + - * / < =");
+        CHECK.same("all of them", alike("((8-2)*3/2+1<11)=1"), 1);
+        // Each is one by itself, whatever stands beside it.
+        CHECK.fault("alike 1<=2;", 1, 8);
+        CHECK.fault("alike 1==1;", 1, 8);
+        CHECK.fault("alike 1+-1;", 1, 8);
+        CHECK.fault("alike 2**3;", 1, 8);
+        CHECK.fault("alike 1;;", 1, 8);
+        // Beside them stand other bytes, which are none: 39, 44, 46, 58, 62.
+        for (char none : new char[] {39, 44, 46, 58, 62}) {
+            CHECK.fault("alike 1" + none + "2;", 1, 7);
+            CHECK.fault("alike " + none + "2;", 1, 6);
+        }
+        // And those that are a sign and 128 more.
+        for (String sign : SIGNS) {
+            CHECK.fault("alike 1" + (char) (sign.charAt(0) + 128) + "2;", 1, 7);
+        }
     }
 
     private static void blanks() {

@@ -4,8 +4,8 @@ import java.util.NoSuchElementException;
 import java.util.function.Consumer;
 
 /**
- * Two objects with the same calls behind them. One is told something more that must leave all as it was; then both
- * must answer the same, also what only later calls show: the ACTS, one by one, the image, and the tape.
+ * Two objects with the same calls behind them, but for one: then both must answer the same, also what only later calls
+ * show: the ACTS, one by one, the image, and the tape. No object gets more than 512 calls.
  */
 final class Twins {
     static final int NO_STATUS = -1;
@@ -16,7 +16,7 @@ final class Twins {
     private Twins() {
     }
 
-    /** Four people, with something of all that an object may hold. At most 40 calls. */
+    /** Four people, with something of all that an object may hold. */
     static SockFair worked() {
         SockFair x = new SockFair();
         x.fair(Check.tape(x, "sock"));
@@ -59,81 +59,137 @@ final class Twins {
             int more = i - FIRST_STATUS == status ? 1 : 0;
             check.same("behind " + call + " count(" + i + ")", x.count(i), y.count(i) + more);
         }
-        List<String> names = new ArrayList<>();
-        List<Long> got = look(x, new ArrayList<>(), withTape);
-        List<Long> due = look(y, names, withTape);
-        check.same("behind " + call + " as much is looked at", got.size(), due.size());
-        for (int i = 0; i < got.size() && i < due.size(); i++) {
-            check.same("behind " + call + " " + names.get(i), got.get(i), due.get(i));
-        }
+        Look got = new Look(x);
+        Look due = new Look(y);
+        got.all(withTape);
+        due.all(withTape);
+        got.mustBe(check, "behind " + call + " ", due);
     }
 
-    private static List<Long> look(SockFair x, List<String> names, boolean withTape) {
-        List<Long> seen = new ArrayList<>();
-        if (withTape) {
-            lookAt("fault()", x.fault(), names, seen);
-            lookAt("count(7)", x.count(7), names, seen);
-        }
-        for (int what = 0; what < 7; what++) {
-            lookAt("count(" + what + ")", x.count(what), names, seen);
-        }
-        lookAtPeople(x, 9, names, seen);
-        int people = x.count(0);
-        for (int one = 0; one < people; one++) {
-            for (int other = 0; other < people; other++) {
-                lookAt("alike(" + one + ", " + other + ")", x.alike(one, other), names, seen);
-                lookAt("liking(" + one + ", " + other + ")", x.liking(one, other), names, seen);
-            }
-            lookAt("then(" + one + ", 3)", x.then(one, 3), names, seen);
-        }
-        for (int what = 0; what <= 2; what++) {
-            lookAt("dyed(" + what + ")", x.dyed(what), names, seen);
-        }
-        lookAt("couples(2)", x.couples(2), names, seen);
-        lookAt("rests(-1)", x.rests(-1), names, seen);
-        lookAt("next(0)", x.next(0), names, seen);
-        lookAtActs("undone ", x, names, seen);
-        lookAt("restore()", x.restore() ? 1 : 0, names, seen);
-        lookAt("dyed(0) of the image", x.dyed(0), names, seen);
-        lookAt("seen of the image", x.count(6), names, seen);
-        lookAtActs("undone of the image ", x, names, seen);
-        if (withTape) {
-            lookAtTape(x, names, seen);
-        }
-        return seen;
+    /** What was asked ahead of a call makes no difference to what is answered behind it. */
+    static void forgetsAnswers(Check check, String call, Consumer<SockFair> what) {
+        SockFair x = worked();
+        SockFair y = worked();
+        new Look(x).now();
+        what.accept(x);
+        what.accept(y);
+        Look got = new Look(x);
+        Look due = new Look(y);
+        got.now();
+        // Nothing was asked of the other one but this: each answer is figured from what stands.
+        due.now();
+        got.mustBe(check, "asked ahead of " + call + " and behind it, ", due);
     }
 
-    private static void lookAt(String name, long answer, List<String> names, List<Long> seen) {
-        names.add(name);
-        seen.add(answer);
-    }
+    /** Answers with the names of their calls. */
+    private static final class Look {
+        private final SockFair x;
+        private final List<String> names = new ArrayList<>();
+        private final List<Long> answers = new ArrayList<>();
 
-    private static void lookAtPeople(SockFair x, int whats, List<String> names, List<Long> seen) {
-        int people = x.count(0);
-        for (int one = 0; one < people; one++) {
-            for (int what = 0; what < whats; what++) {
-                lookAt("person(" + one + ", " + what + ")", x.person(one, what), names, seen);
+        Look(SockFair x) {
+            this.x = x;
+        }
+
+        void mustBe(Check check, String when, Look due) {
+            check.same(when + "as much is looked at", names.size(), due.names.size());
+            for (int i = 0; i < answers.size() && i < due.answers.size(); i++) {
+                check.same(when + due.names.get(i), answers.get(i), due.answers.get(i));
             }
         }
-    }
 
-    private static void lookAtActs(String when, SockFair x, List<String> names, List<Long> seen) {
-        int people = x.count(0);
-        for (int i = 0; i < 6; i++) {
-            lookAt(when + i + ": undo()", x.undo(), names, seen);
-            lookAt(when + i + ": count(1)", x.count(1), names, seen);
-            lookAt(when + i + ": count(2)", x.count(2), names, seen);
-            lookAt(when + i + ": count(3)", x.count(3), names, seen);
+        private void note(String name, long answer) {
+            names.add(name);
+            answers.add(answer);
+        }
+
+        /** What stands now, then what can be undone and restored, and the tape. */
+        void all(boolean withTape) {
+            if (withTape) {
+                note("fault()", x.fault());
+                note("count(7)", x.count(7));
+            }
+            now();
+            acts("undone ");
+            note("restore()", x.restore() ? 1 : 0);
+            note("dyed(0) of the image", x.dyed(0));
+            note("seen of the image", x.count(6));
+            acts("undone of the image ");
+            if (withTape) {
+                int bytes = x.count(7);
+                note("bytes of the tape", bytes);
+                note("fair of the tape", x.fair(bytes));
+                people(6);
+            }
+        }
+
+        void now() {
+            for (int what = 0; what < 7; what++) {
+                note("count(" + what + ")", x.count(what));
+            }
+            people(9);
+            likenesses();
+            int people = x.count(0);
             for (int one = 0; one < people; one++) {
-                lookAt(when + i + ": colour of " + one, x.person(one, 0), names, seen);
+                note("then(" + one + ", 3)", x.then(one, 3));
+                note("most(" + one + ")", x.most(one));
+                note("rests(" + one + ")", x.rests(one));
+                note("mates(" + one + ")", x.mates(one));
+                note("way(" + one + ", ., 1)", x.way(one, (one + 1) % people, 1));
+                note("lasts(" + one + ")", x.lasts(one));
+            }
+            if (people > 0) {
+                note("knit(0)", x.knit(0));
+            }
+            for (int what = 0; what <= 2; what++) {
+                note("dyed(" + what + ")", x.dyed(what));
+            }
+            note("next(0)", x.next(0));
+            note("next(1)", x.next(1));
+            note("couples(2)", x.couples(2));
+            note("single(4)", x.single(4));
+            note("closest()", x.closest());
+            note("lonely()", x.lonely());
+            note("faithful()", x.faithful());
+            note("best()", x.best());
+            note("rests(-1)", x.rests(-1));
+            note("ring()", x.ring());
+            note("circles()", x.circles());
+            note("colour(1)", x.colour(1));
+            note("darner()", x.darner());
+            note("generations(5, 9, 2)", x.generations(5, 9, 2));
+        }
+
+        private void likenesses() {
+            int people = x.count(0);
+            for (int one = 0; one < people; one++) {
+                for (int other = one; other < people; other++) {
+                    note("alike(" + one + ", " + other + ")", x.alike(one, other));
+                    note("liking(" + other + ", " + one + ")", x.liking(other, one));
+                }
             }
         }
-    }
 
-    private static void lookAtTape(SockFair x, List<String> names, List<Long> seen) {
-        int bytes = x.count(7);
-        lookAt("bytes of the tape", bytes, names, seen);
-        lookAt("fair of the tape", x.fair(bytes), names, seen);
-        lookAtPeople(x, 6, names, seen);
+        private void people(int whats) {
+            int people = x.count(0);
+            for (int one = 0; one < people; one++) {
+                for (int what = 0; what < whats; what++) {
+                    note("person(" + one + ", " + what + ")", x.person(one, what));
+                }
+            }
+        }
+
+        private void acts(String when) {
+            int people = x.count(0);
+            for (int i = 0; i < 6; i++) {
+                note(when + i + ": undo()", x.undo());
+                note(when + i + ": count(1)", x.count(1));
+                note(when + i + ": count(2)", x.count(2));
+                note(when + i + ": count(3)", x.count(3));
+                for (int one = 0; one < people; one++) {
+                    note(when + i + ": colour of " + one, x.person(one, 0));
+                }
+            }
+        }
     }
 }
