@@ -393,6 +393,8 @@ public final class EdgesOfDyesTest {
             ten.append("plain ").append(i).append(" 0 1 0 0;");
         }
         telling("45 couples", CHECK.of(ten.toString()), 1, 45);
+        // Four of ten are free, 1, 4, 7 and 9: any two of them or none are bound beside those who are.
+        telling("six couples and none", CHECK.of(ten + "bound 0 8;bound 2 6;bound 3 5;"), 1, 7);
         // Nine: each may also get the COLOUR that nobody has, and then nobody is bound, whoever it is.
         StringBuilder nine = new StringBuilder("alike not colours;");
         for (int i = 0; i < 9; i++) {
@@ -402,7 +404,10 @@ public final class EdgesOfDyesTest {
         // At the first FAIR 01 alone MAY be, at the second one any of three.
         SockFair later = CHECK.of("plain 0 0 1 0 0;plain 1 0 2 0 0;plain 2 0 9 0 0;alike not colours and (sizes=1 or worn=2);");
         telling("01 and none, then all three and none", later, 2, 4);
-        CHECK.same("of its own room", later.best() * 100 + later.most(-1) * 10 + later.colour(1), 1);
+        CHECK.same("they stay thoughts", later.best() * 100 + later.most(-1) * 10 + later.colour(1), 1);
+        SockFair far = CHECK.of(P + "plain 9 0 1 0 0;alike 3-colours;");
+        telling("none, then 01", far, 1, 2);
+        CHECK.same("they stay thoughts", far.best() * 100 + far.most(-1) * 10 + far.colour(1), 1);
         // Without dyeing it would be another one: that doesn't count.
         SockFair y = CHECK.of(P + P + "alike not colours;");
         y.see(0, 20, -1);
