@@ -41,13 +41,17 @@ final class Check {
         sentences++;
         sentence = "";
         // Without the document beside the project its words can't be compared; what is due stands here all the same.
-        if (Files.exists(DOCUMENT)) {
+        if (hasDocument()) {
             same("'" + words + "' stands behind " + heading, partOf(document(), heading).contains(words), true);
         }
         sentence = heading.substring(3) + " '" + words + "' ";
     }
 
-    private static String document() {
+    static boolean hasDocument() {
+        return Files.exists(DOCUMENT);
+    }
+
+    static String document() {
         try {
             return Files.readString(DOCUMENT, StandardCharsets.UTF_8);
         } catch (IOException e) {
@@ -55,7 +59,7 @@ final class Check {
         }
     }
 
-    private static String partOf(String document, String heading) {
+    static String partOf(String document, String heading) {
         int from = document.indexOf("\n" + heading);
         if (from < 0) {
             return "";

@@ -3,6 +3,9 @@ import java.lang.reflect.Field;
 import java.lang.reflect.Member;
 import java.lang.reflect.Method;
 import java.lang.reflect.Modifier;
+import java.nio.charset.StandardCharsets;
+import java.nio.file.Files;
+import java.nio.file.Path;
 import java.util.ArrayList;
 import java.util.Arrays;
 import java.util.List;
@@ -65,6 +68,30 @@ public final class FaceTest {
             check.same(inside.getName() + " is not public", Modifier.isPublic(inside.getModifiers()), false);
         }
         check.same("few classes inside", SockFair.class.getDeclaredClasses().length <= 12, true);
+        if (Check.hasDocument()) {
+            asInTheDocument(check);
+        }
         check.end("FaceTest");
+    }
+
+    /** What 'The public face' says, with the names of parameters and the exceptions, is what the source says. */
+    private static void asInTheDocument(Check check) throws Exception {
+        List<String> due = faceLines(Check.partOf(Check.document(), "## The public face"));
+        List<String> got = faceLines(Files.readString(Path.of("src/main/java/SockFair.java"), StandardCharsets.UTF_8));
+        check.same("lines of the face in the document", due.size(), FACE.length + 2);
+        check.same("lines of the face in the source", got.size(), FACE.length + 2);
+        for (String line : due) {
+            check.same("the source has " + line, got.contains(line), true);
+        }
+    }
+
+    private static List<String> faceLines(String text) {
+        List<String> lines = new ArrayList<>();
+        for (String line : text.split("\n")) {
+            if (line.startsWith("    public ")) {
+                lines.add(line.replaceFirst("( \\{|;)$", ""));
+            }
+        }
+        return lines;
     }
 }
